@@ -115,7 +115,12 @@ public final class ActsTest {
     x.see(0, 3);
     x.plan(0, 2);
     x.plan(3, 0);
-    x.book(1, 5, 4);
+    for (int n = 0; n < 5; n++) {
+      x.see(n % 3, 4 + n);
+      x.plan(4, n);
+      x.book(1, n, x.dark(1, n));
+    }
+    x.book(1, 5, 30);
     Check.feed(x, "wear 1");
     return x;
   }
@@ -173,6 +178,35 @@ public final class ActsTest {
     Check.due("its needs in thought", x.done(0), 108);
   }
 
+  /** Each row that is told by hand comes back, and is told by what it answers. */
+  private static void rowsOfTheImage() {
+    MirrorPlate x = full();
+    x.image();
+    int looked = x.looked();
+    int done = x.done(1);
+    Check.due("looked(): the sixth is not so", looked, 5);
+    change(x);
+    for (int i = 0; i < 8; i++) {
+      x.see(0, 30);
+      x.plan(2, 0);
+      x.book(0, 0, 30);
+    }
+    x.undo();
+    Check.due("looked() behind undo()", x.looked(), looked);
+    Check.due("done(1) behind undo()", x.done(1), done);
+    Check.due("ran(0): cannot be", x.ran(0), 0);
+    for (int mark = 0; mark < 3; mark++) {
+      x.see(-1, 0);
+      x.see(mark, x.dark(mark, 0));
+      x.image();
+      int ran = x.ran(0);
+      x.see(-1, 0);
+      x.see(2, 30);
+      x.undo();
+      Check.due("ran(0) behind undo()", x.ran(0), ran);
+    }
+  }
+
   private static void whatIsNotInTheImage() {
     MirrorPlate x = kinds();
     x.act(0, 2, 5);
@@ -191,6 +225,7 @@ public final class ActsTest {
     Check.due("WEAR without a plate", empty.told(3), 20);
     Check.due("a new first plate", Check.plate(empty, "wear 4"), 0);
     Check.due("its WEAR", empty.told(3), 4);
+    Check.due("looked() of no rows", empty.looked(), -5);
     empty.image();
     Check.plate(empty, "wear 5");
     Check.plate(empty, "wear 6");
@@ -203,7 +238,7 @@ public final class ActsTest {
 
   private static void counting() {
     MirrorPlate x = full();
-    int[] want = {3, 1, 1, 2, 1, 6, 0};
+    int[] want = {3, 1, 6, 7, 6, 6, 0};
     for (int what = 0; what <= 6; what++) {
       Check.due("count(" + what + ")", x.count(what), want[what]);
     }
@@ -219,6 +254,7 @@ public final class ActsTest {
     noActs();
     kindsAbove();
     image();
+    rowsOfTheImage();
     whatIsNotInTheImage();
     counting();
     Check.finish();

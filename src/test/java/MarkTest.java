@@ -78,6 +78,8 @@ public final class MarkTest {
     Check.due("row(0, 4, 0)", x.row(0, 4, 0), NONE);
     Check.due("row(0, 4, 10): NONE ahead of BAD", x.row(0, 4, 10), NONE);
     Check.due("row(1, 4, 0): NONE ahead of STATE", x.row(1, 4, 0), NONE);
+    Check.due("row(1, -1, 0): NONE ahead of STATE", x.row(1, -1, 0), NONE);
+    Check.due("row(0, -1, 10): NONE ahead of BAD", x.row(0, -1, 10), NONE);
     Check.due("row(0, 0, -1)", x.row(0, 0, -1), BAD);
     Check.due("row(0, 0, 10)", x.row(0, 0, 10), BAD);
     Check.due("row(1, 0, 10): BAD ahead of STATE", x.row(1, 0, 10), BAD);
@@ -227,6 +229,24 @@ public final class MarkTest {
     Check.due("TIRED is 99 at most", x.told(2), 99);
   }
 
+  /** By WEAR 1 each print shows. */
+  private static void darkThen() {
+    MirrorPlate x = new MirrorPlate();
+    x.mark(6, 0, 0, 5);
+    Check.plate(x, "wear 1");
+    x.row(0, 0, 1);
+    x.row(0, 1, 4);
+    x.row(0, 3, 8);
+    x.cut(0, 99);
+    Check.due("mend(0): DARK then", x.mend(0), 5 + 1 - 1);
+    Check.due("over(0): DARK then", x.over(0), 6 + 1 - 1);
+    Check.due("dark(0, 1)", x.dark(0, 1), 6 + 4 - 1 - 1);
+    Check.due("print(8)", x.print(8), 0);
+    Check.due("print(1)", x.print(1), 0);
+    Check.due("print(2): it comes back", x.print(2), 1);
+    Check.due("of(0, 10)", x.of(0, 10), 6 + 8 - 1 - 11);
+  }
+
   private static void printing() {
     MirrorPlate x = new MirrorPlate();
     x.mark(0, 0, 0, 2);
@@ -324,13 +344,25 @@ public final class MarkTest {
     MirrorPlate x = new MirrorPlate();
     x.mark(4, 9, 0, 9);
     x.mark(0, 0, 0, 1);
+    x.mark(0, 0, 0, 1);
     x.cut(0, 99);
     for (int i = 0; i < 1098; i++) {
       x.over(0);
     }
     Check.due("MINUTE", x.told(0), 99000);
+    Check.plate(x, "mend 0");
     Check.due("rest(0) at MINUTE 99000", x.rest(0), 99);
-    Check.due("over(0) at MINUTE 99000", x.over(0), 4);
+    Check.due("mend(0) at MINUTE 99000", x.mend(0), 3);
+    x.image();
+    Check.due("cut(1, 99) at MINUTE 99000", x.cut(1, 99), 0);
+    Check.due("cut(2, 99) at MINUTE 99003", x.cut(2, 99), STATE);
+    x.undo();
+    Check.due("rest(1) at MINUTE 99000", x.rest(1), 97);
+    Check.due("rest(1) at MINUTE 99001", x.rest(1), STATE);
+    Check.due("mend(0) at MINUTE 99001", x.mend(0), STATE);
+    Check.due("over(0) at MINUTE 99001", x.over(0), STATE);
+    x.undo();
+    Check.due("over(0) at MINUTE 99000", x.over(0), 3);
     Check.due("MINUTE above", x.told(0), 99090);
     Check.due("over(0) above", x.over(0), STATE);
     Check.due("mend(0) above", x.mend(0), STATE);
@@ -351,6 +383,7 @@ public final class MarkTest {
     resting();
     mending();
     goingOver();
+    darkThen();
     printing();
     darkness();
     darknessRefused();

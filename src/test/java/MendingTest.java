@@ -109,6 +109,46 @@ public final class MendingTest {
     Check.due("best(): not above 0", faint.best(), -5);
   }
 
+  /** By WEAR 1 each print shows. */
+  private static void asItIsNow() {
+    MirrorPlate x = new MirrorPlate();
+    x.mark(0, 0, 0, 2);
+    x.mark(0, 0, 0, 6);
+    Check.plate(x, "wear 1;risk 99 d>0");
+    x.cut(0, 0);
+    x.cut(1, 0);
+    Check.due("proof(0): DARK now, not behind one more", x.proof(0), 2);
+    Check.due("proofs()", x.proofs(), 4);
+    Check.due("mends(): DARK 1 then, not behind one more", x.mends(), 3);
+    x.print(2);
+    Check.due("proof(0) worn", x.proof(0), 0);
+    Check.due("good(-1)", x.good(-1), 3);
+    Check.due("worth(0): it prints 2 more then, the other 3", x.worth(0), 2 - 3);
+    Check.due("worth(1)", x.worth(1), 6 - 3);
+    Check.due("best()", x.best(), 1);
+    MirrorPlate thin = new MirrorPlate();
+    thin.mark(1, 0, 0, 1);
+    thin.mark(0, 0, 0, 9);
+    Check.plate(thin, "wear 1");
+    thin.cut(0, 99);
+    thin.cut(1, 99);
+    thin.print(1);
+    Check.due("good(-1): one more is too many", thin.good(-1), 0);
+    Check.due("worth(1): the thin one counts now", thin.worth(1), 0);
+    Check.due("worth(0): DARK 3 is good for 2", thin.worth(0), 2);
+    thin.print(1);
+    Check.due("good(-1): the thick one alone", thin.good(-1), 6);
+    MirrorPlate faint = new MirrorPlate();
+    faint.mark(4, 0, 0, 3);
+    faint.mark(0, 0, 0, 9);
+    Check.plate(faint, "wear 2");
+    faint.cut(0, 99);
+    faint.cut(1, 99);
+    faint.print(4);
+    Check.due("good(-1): HATCH does not print", faint.good(-1), 13);
+    Check.due("worth(0): HATCH of DEPTH 4 prints, good for 3", faint.worth(0), 3 - 13);
+  }
+
   private static void bestOfSeveral() {
     MirrorPlate x = new MirrorPlate();
     x.mark(0, 0, 0, 9);
@@ -129,6 +169,7 @@ public final class MendingTest {
     mends();
     worth();
     worthBelowZero();
+    asItIsNow();
     bestOfSeveral();
     Check.finish();
   }

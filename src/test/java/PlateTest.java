@@ -87,6 +87,10 @@ public final class PlateTest {
     fault("wear  5", 5);
     fault("wear x", 5);
     fault("wear -1", 5);
+    fault("wear /", 5);
+    fault("wear :", 5);
+    fault("wear 5/", 6);
+    fault("wear 5:", 6);
     fault("wear 00", 6);
     fault("wear 05", 6);
     fault("wear 5 ", 6);
@@ -168,6 +172,21 @@ public final class PlateTest {
     Check.due("told(4) of the fifth", x.told(4), 1);
   }
 
+  /** What was read ahead of a fault is not in the next plate. */
+  private static void behindAFault() {
+    MirrorPlate x = new MirrorPlate();
+    x.mark(0, 0, 0, 5);
+    for (int times = 0; times < 4; times++) {
+      Check.due("a fault at its end", Check.plate(x, "wear 9;mend 9;risk 50 d>0;risk 9 d>0&d>0&d>0&d>0&d>0&d>0&d>0&d>0&d>0&d>0&d>0&d>0&d>0;"), -10 - 85);
+    }
+    Check.due("RISK", x.of(0, 8), 0);
+    Check.due("told(3)", x.told(3), 20);
+    Check.due("plate 0", Check.plate(x, "risk 7 m=0&d=5&d=5&d=5&d=5&d=5&d=5&d=5&d=5&d=5&d=5&d=5&d=5&d=5&d=5&d=5&d=5&v=0|m=9&m=9"), 0);
+    Check.due("RISK by the next plate alone", x.of(0, 8), 7);
+    Check.due("told(3) without", x.told(3), 20);
+    Check.due("told(4) without", x.told(4), 8);
+  }
+
   private static int risk(String clauses, int mark) {
     MirrorPlate x = new MirrorPlate();
     x.mark(3, 7, 45, 6);
@@ -203,6 +222,12 @@ public final class PlateTest {
     risks("risk 50 t<1&m=2", 0, 0, 50);
     risks("risk 50 t>0", 0, 0, 0);
     risks("risk 50 d<10", 50, 50, 50);
+    risks("risk 50 m<0", 0, 0, 0);
+    risks("risk 50 !m<0", 50, 50, 50);
+    risks("risk 50 m<0|m=1", 0, 50, 0);
+    risks("risk 50 m<99", 50, 50, 50);
+    risks("risk 50 v<99&x<99&d<99&t<99&k<99", 50, 50, 50);
+    risks("risk 50 v=99|v=98|v>98|v>99", 0, 0, 0);
   }
 
   private static void howItIsCombined() {
@@ -233,6 +258,30 @@ public final class PlateTest {
     risks("risk 1 m=0;risk 2 m=0;risk 3 m=0;risk 4 m=0;risk 5 m=0;risk 6 m=0;risk 7 m=0;risk 8 m=0;risk 9 m=0", 45, 0, 0);
   }
 
+  private static void tens() {
+    MirrorPlate x = new MirrorPlate();
+    int[] places = {0, 9, 10, 19, 50, 59, 90, 99};
+    for (int place : places) {
+      x.mark(1, 0, place, 1);
+    }
+    Check.plate(x, "risk 10 x=0;risk 20 x=1;risk 30 x=5;risk 40 x=9");
+    int[] want = {10, 10, 20, 20, 30, 30, 40, 40};
+    for (int i = 0; i < places.length; i++) {
+      Check.due("RISK at place " + places[i], x.of(i, 8), want[i]);
+    }
+    MirrorPlate y = new MirrorPlate();
+    y.mark(0, 0, 0, 6);
+    y.mark(1, 0, 0, 1);
+    y.mark(0, 0, 0, 6);
+    Check.plate(y, "risk 50 t=1;risk 90 t=2");
+    y.cut(0, 99);
+    Check.due("TIRED 9: t is 0", y.of(0, 8), 1);
+    y.cut(1, 99);
+    Check.due("TIRED 10: t is 1", y.of(0, 8), 52);
+    y.cut(2, 99);
+    Check.due("TIRED 19: t is 1", y.of(0, 8), 53);
+  }
+
   private static void tiredness() {
     MirrorPlate x = new MirrorPlate();
     x.mark(0, 0, 0, 9);
@@ -253,9 +302,11 @@ public final class PlateTest {
     clausesThatAreRead();
     faults();
     theNewestHolds();
+    behindAFault();
     whatIsAsked();
     howItIsCombined();
     howTheyAreSummed();
+    tens();
     tiredness();
     Check.finish();
   }

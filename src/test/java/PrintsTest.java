@@ -88,14 +88,18 @@ public final class PrintsTest {
     x.mark(6, 0, 0, 9);
     Check.plate(x, "wear 99");
     x.cut(1, 99);
-    rowOf(x, 1, 2, 2, 2, 1);
-    Check.due("dark(1, 998)", x.dark(1, 998), 1);
-    Check.due("dark(1, 999)", x.dark(1, 999), 0);
+    rowOf(x, 1, 2, 2, 2, 2);
+    x.print(89);
+    Check.due("dark(1, 999): WORN is 1088", x.dark(1, 999), 1);
+    Check.due("first(): at 1000", x.first(), -5);
+    Check.due("good(1)", x.good(1), 999);
+    Check.due("faded(999)", x.faded(999), 0);
+    x.print(1);
+    Check.due("dark(1, 999): WORN is 1089", x.dark(1, 999), 0);
     Check.due("first(): at 999", x.first(), 1);
     Check.due("good(1)", x.good(1), 998);
-    rowOf(x, 1, 2, 2, 2, 2);
-    Check.due("first(): at 1089", x.first(), -5);
-    Check.due("good(1)", x.good(1), 999);
+    Check.due("faded(999)", x.faded(999), 2);
+    Check.due("faded(998)", x.faded(998), 0);
   }
 
   private static void first() {
@@ -116,6 +120,30 @@ public final class PrintsTest {
     Check.due("first(): of those that print now", x.first(), 0);
     x.print(100);
     Check.due("first(): none prints", x.first(), -5);
+  }
+
+  /** By WEAR 1 each print shows. */
+  private static void atOnce() {
+    MirrorPlate x = new MirrorPlate();
+    x.mark(0, 0, 0, 2);
+    x.mark(0, 0, 0, 1);
+    Check.plate(x, "wear 1");
+    cutAll(x);
+    Check.due("good(0): 1", x.good(0), 1);
+    Check.due("good(1): 0", x.good(1), 0);
+    Check.due("good(-1): 0", x.good(-1), 0);
+    Check.due("first(): behind 1", x.first(), 1);
+    Check.due("faded(0)", x.faded(0), 0);
+    Check.due("faded(1)", x.faded(1), 2);
+    Check.due("faded(2)", x.faded(2), 3);
+    Check.due("worth(1): 1 becomes 2", x.worth(1), 1);
+    Check.due("worth(0): the other holds it back", x.worth(0), 0);
+    x.print(1);
+    Check.due("good(0): 0", x.good(0), 0);
+    Check.due("good(1): gone", x.good(1), -5);
+    Check.due("first(): of one", x.first(), 0);
+    Check.due("faded(1): it prints no more", x.faded(1), 1);
+    Check.due("print(0)", x.print(0), 1);
   }
 
   private static void faded() {
@@ -144,6 +172,7 @@ public final class PrintsTest {
     goodIsTheMost();
     firstAt999();
     first();
+    atOnce();
     faded();
     Check.finish();
   }

@@ -119,6 +119,11 @@ public final class SeenTest {
     Check.due("errs(): two of 2, two of 3", x.errs(), 2);
     x.mend(2);
     Check.due("errs(): one is mended", x.errs(), 3);
+    MirrorPlate one = new MirrorPlate();
+    Check.plate(one, "risk 99 d>0");
+    one.mark(0, 0, 0, 1);
+    one.cut(0, 1);
+    Check.due("errs(): the first mark's", one.errs(), 2);
   }
 
   private static void fraction(String who, long above, long below, long wantAbove, long wantBelow) {
@@ -253,6 +258,30 @@ public final class SeenTest {
     doneIs("no plan", x, 0, 0, 1);
   }
 
+  private static void doneByNumbersOfTheDocument() {
+    MirrorPlate x = new MirrorPlate();
+    x.mark(0, 0, 0, 2);
+    Check.plate(x, "risk 99 d>0");
+    x.plan(0, 0);
+    doneIs("the DRAW is 99: not too faint", x, 6, 3, 1);
+    x.cut(0, 99);
+    x.plan(-1, 0);
+    x.plan(4, 0);
+    Check.plate(x, "wear 25");
+    doneIs("50 PRINTS, no less", x, 0, 3, 0);
+    Check.plate(x, "wear 26");
+    doneIs("50 PRINTS by WEAR 26", x, 0, 3, 1);
+    x.over(0);
+    Check.plate(x, "wear 17");
+    doneIs("50 PRINTS, no more", x, 0, 6, 1);
+    Check.plate(x, "wear 1");
+    x.plan(-1, 0);
+    x.print(2);
+    doneIs("DARK then, not behind one more", x, 0, 6, 1);
+    x.print(1);
+    doneIs("none then", x, 0, 6, 0);
+  }
+
   private static void doneBeyondTheLimits() {
     MirrorPlate x = new MirrorPlate();
     x.mark(2, 0, 0, 9);
@@ -271,6 +300,16 @@ public final class SeenTest {
     Check.due("MENDED stays", x.of(0, 7), 9);
     x.over(0);
     doneIs("and with 3 more", x, 64, 99, 1);
+    MirrorPlate y = new MirrorPlate();
+    y.mark(2, 0, 0, 5);
+    y.cut(0, 99);
+    for (int i = 0; i < 9; i++) {
+      y.mend(0);
+    }
+    y.print(20);
+    doneIs("10 less 9 less 1", y, 0, 52, 0);
+    y.plan(1, 0);
+    doneIs("MENDED is 9 at most: 10 less 9", y, 8, 57, 1);
   }
 
   private static void book() {
@@ -315,6 +354,7 @@ public final class SeenTest {
     plan();
     done();
     doneByItsOrder();
+    doneByNumbersOfTheDocument();
     doneBeyondTheLimits();
     book();
     Check.finish();
