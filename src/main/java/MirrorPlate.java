@@ -29,7 +29,7 @@ public final class MirrorPlate {
 
   private static final int MARK = 0, LINE = 1, LETTER = 2, NUMBER = 3, HATCH = 4, TURNED = 5, TOLD = 6;
   private static final int PLAN_CUT = 0, PLAN_MEND = 1, PLAN_OVER = 2, PLAN_REST = 3, PLAN_PRINTS = 4;
-  private static final int PLAN_DRAW = 99, PLAN_REST_MINUTES = 10, PLAN_PRINTS_TAKEN = 50;
+  private static final int PLAN_DRAW = 99, REST_MINUTES = 10, PLAN_PRINTS_TAKEN = 50;
 
   private final Bench now;
   private final Bench image;
@@ -697,7 +697,7 @@ public final class MirrorPlate {
 
   private void planInThought(int what, int mark) {
     if (what == PLAN_REST) {
-      thought.restFor(PLAN_REST_MINUTES);
+      thought.restFor(REST_MINUTES);
       return;
     }
     if (what == PLAN_PRINTS) {
@@ -852,7 +852,7 @@ public final class MirrorPlate {
         Mark m = marks[i];
         if (!m.isCut) {
           if (i == ahead) {
-            hand = lessTired(hand, PLAN_REST_MINUTES);
+            hand = lessTired(hand, REST_MINUTES);
           }
           risk += held.riskOf(m, hand);
           hand = m.tiredBehindCut(hand);

@@ -181,6 +181,10 @@ public final class PlateTest {
     }
     Check.due("RISK", x.of(0, 8), 0);
     Check.due("told(3)", x.told(3), 20);
+    x.image();
+    Check.due("a plate that asks for something else", Check.plate(x, "risk 7 m=9;risk 4 m=0"), 0);
+    Check.due("RISK by that plate alone", x.of(0, 8), 4);
+    x.undo();
     Check.due("plate 0", Check.plate(x, "risk 7 m=0&d=5&d=5&d=5&d=5&d=5&d=5&d=5&d=5&d=5&d=5&d=5&d=5&d=5&d=5&d=5&d=5&v=0|m=9&m=9"), 0);
     Check.due("RISK by the next plate alone", x.of(0, 8), 7);
     Check.due("told(3) without", x.told(3), 20);
@@ -225,6 +229,8 @@ public final class PlateTest {
     risks("risk 50 m<0", 0, 0, 0);
     risks("risk 50 !m<0", 50, 50, 50);
     risks("risk 50 m<0|m=1", 0, 50, 0);
+    risks("risk 50 m=0|m=0&m<0", 50, 0, 0);
+    risks("risk 50 m=0|!(m=1|m<0)&!m=2", 50, 0, 0);
     risks("risk 50 m<99", 50, 50, 50);
     risks("risk 50 v<99&x<99&d<99&t<99&k<99", 50, 50, 50);
     risks("risk 50 v=99|v=98|v>98|v>99", 0, 0, 0);
