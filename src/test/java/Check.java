@@ -2,15 +2,26 @@
 final class Check {
   private static int passed = 0;
   private static int failed = 0;
+  private static String test = "";
 
   private Check() {}
+
+  /** What is looked at from now on belongs to this test. */
+  static void test(String name) {
+    test = name.isEmpty() ? "" : name + ": ";
+  }
+
+  /** How often something was looked at so far. */
+  static int looked() {
+    return passed + failed;
+  }
 
   static void due(String call, long got, long want) {
     if (got == want) {
       passed++;
     } else {
       failed++;
-      System.out.println(call + " answered " + got + ", due is " + want);
+      System.out.println(test + call + " answered " + got + ", due is " + want);
     }
   }
 
