@@ -820,7 +820,10 @@ public final class MirrorPlate {
       return bits;
     }
 
-    /** The first of these marks that does not print behind n prints more; -1, if all do. */
+    /**
+     * The first of these marks that does not print behind n prints more; -1, if all do. It asks the
+     * mark itself, as by darkBehind() the calls of WORTH would go nine deep.
+     */
     int firstFaded(int bits, int n) {
       for (int i = 0; i < size; i++) {
         Mark m = marks[i];
